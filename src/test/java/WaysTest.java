@@ -150,6 +150,8 @@ public final class WaysTest {
             x.frost(day, true);
         }
         due("none by frost", x.first(), -9);
+        x.frost(79, false);
+        due("on the last day", x.first(), 1);
     }
 
     private static void refusals() {
