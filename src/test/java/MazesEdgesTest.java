@@ -90,6 +90,15 @@ public final class MazesEdgesTest {
             }
             scene.keeps("mazes by day 3", x -> x.mazes(0, 3), 40);
         }
+        // Nor does the garden mind them: cell 0 stays as it is, and nothing is planted there.
+        VineGarden x = planted("g23;p.x;###", 0, 1, 0);
+        due("mazes", x.mazes(2, 79), 51);
+        due("cell 0 stays", x.sign(0), 2);
+        due("it may be closed still", x.closed(0, 0), 0);
+        due("by which it is out on day 0", x.closed(0, 1), 0);
+        x.set(0, 1);
+        due("mazes", x.mazes(0, 79), 51);
+        due("cell 0 stays", x.sign(0), 1);
     }
 
     // ---- promise 19: odds
